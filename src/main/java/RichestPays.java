@@ -373,7 +373,7 @@ public final class RichestPays {
             h = mixed(h, evening.sumsOf(what)[p]);
         }
         h = mixed(h, seating.firstRestTable(p));
-        return mixed(mixed(h, partings.fewestDown(p, 10)), hid(p));
+        return mixed(mixed(h, partings.fewestDown(p, 10)), secrets.leastHidden(p));
     }
 
     private long mixedRound(long before, int round) {

@@ -8,6 +8,7 @@ public final class EveningsTest {
         together();
         payers();
         beggars();
+        mostOfAll();
         Due.end("EveningsTest");
     }
 
@@ -106,6 +107,27 @@ public final class EveningsTest {
         Due.is("all(1, 0) of none", x.all(1, 0), RichestPays.BAD);
     }
 
+    /** Six PEOPLE and eight ROUNDS, the last of them at the last TABLE. */
+    private static void mostOfAll() {
+        RichestPays x = Make.with("9901;9801;9701;9601;9501;9401",
+                "------;------;------;------;------;------;------;555555");
+        Due.is("fault(1)", x.fault(1), -1);
+        Due.is("count(1)", x.count(1), 8);
+        Due.is("count(5)", x.count(5), 579);
+        Due.is("count(7)", x.count(7), 6);
+        Due.is("payer(7, 5)", x.payer(7, 5), 0);
+        Due.is("payer(6, 5)", x.payer(6, 5), RichestPays.NONE);
+        Due.is("all(8, 0)", x.all(8, 0), 573);
+        Due.is("sits(7, 5)", x.sits(7, 5), 5);
+        Due.is("best(7, 5, 1)", x.best(7, 5, 1), 0);
+        Due.is("dark(7, 0, 1)", x.dark(7, 0, 1), 1);
+        state(x, 0, 8, 93, 6, 1, 0);
+        Make.retype(x, 1, "000000;000000;000000;000000;000000;000000;000000;-00000");
+        Due.is("payer(7, 5) behind other ROUNDS", x.payer(7, 5), RichestPays.NONE);
+        Due.is("payer(7, 0) behind other ROUNDS", x.payer(7, 0), 1);
+        Due.is("count(7) behind other ROUNDS", x.count(7), 47);
+    }
+
     private static void payers() {
         RichestPays x = Make.with("3010;2015;2005", "001;001;---");
         Due.is("payer(0, 0)", x.payer(0, 0), 0);
@@ -142,5 +164,8 @@ public final class EveningsTest {
         Due.is("beggars(), empty PURSES", x.beggars(), 2 + 8);
         x.wipe(1);
         Due.is("beggars(), no ROUNDS", x.beggars(), 0);
+        Make.retype(x, 0, "3010;2001;2000");
+        Make.type(x, 1, "000");
+        Due.is("beggars(), who eats least", x.beggars(), 2);
     }
 }

@@ -47,10 +47,10 @@ public final class SeatingTest {
         RichestPays y = Make.with("5010", "5;-");
         best(y, 0, 0, 20, 0, 50);
         best(y, 1, 0, 20, 0, 50);
-        // at home already what is told does not count for the one who chooses
+        // what is told to be at HOME does not count for the one who chooses
         y.home(0, 50);
         best(y, 0, 0, 20, 0, 50);
-        // the one's own told TABLE is empty for oneself: the order of TABLES is by number alone
+        // of like TABLES the least one, wherever one sits as told
         RichestPays z = Make.with("3020;9905", "11");
         best(z, 0, 0, 20, 0, 30);
         z.worth(0, 50);
@@ -88,6 +88,10 @@ public final class SeatingTest {
         RichestPays y = Make.with("3015;2015", "");
         rests(y, 0, -1, -1);
         y.worth(0, 50);
+        rests(y, 0, -1, -1);
+        Make.retype(y, 0, "0015;0015");
+        rests(y, 9, 0, 0);
+        Make.retype(y, 0, "3015;2015");
         rests(y, 0, -1, -1);
         // one with empty hands eats for nothing anywhere
         Make.retype(y, 0, "0015");
@@ -128,6 +132,13 @@ public final class SeatingTest {
         Due.is("down(0, 45)", x.down(0, 45), RichestPays.NONE);
         Due.is("down(0, 60)", x.down(0, 60), RichestPays.NONE);
         Due.is("down(1, 0)", x.down(1, 0), 3);
+        Make.retype(x, 0, "5010;3111");
+        Due.is("down(0, 50), beside an odd sum", x.down(0, 50), 0);
+        Make.retype(x, 0, "5010");
+        Due.is("down(0, 40) of one", x.down(0, 40), 1);
+        Due.is("down(0, 20) of one", x.down(0, 20), 3);
+        Due.is("down(0, 10) of one", x.down(0, 10), RichestPays.NONE);
+        Make.retype(x, 0, "5010;3010");
         x.home(0, 45);
         Due.is("down(0, 5)", x.down(0, 5), 0);
         Due.is("down(0, 0) by a SHORT one", x.down(0, 0), 1);
@@ -144,7 +155,7 @@ public final class SeatingTest {
     }
 
     private static void downLaws() {
-        // with 9 more at one TABLE, by sums that tell who sat together
+        // APPETITES by which each sum tells who sat together
         RichestPays x = Make.with("9901;2002;2004;2008", "");
         int[] sums = {1, 3, 5, 7, 9, 11, 13, 15};
         for (int sum : sums) {
@@ -170,6 +181,30 @@ public final class SeatingTest {
         Due.is("alike() of " + people, x.alike(), want);
     }
 
+    /**
+     * One at each TABLE has what all eat there and 10 more, the others have 10: as no other sums
+     * of APPETITES 1, 2, 4, 8 are like these, just this way makes all alike at once.
+     */
+    private static void eachWayToPart(String tables, int people) {
+        if (tables.length() < people) {
+            int next = tables.chars().map(c -> c - '0').max().orElse(-1) + 1;
+            for (int table = 0; table <= next; table++) {
+                eachWayToPart(tables + table, people);
+            }
+            return;
+        }
+        StringBuilder told = new StringBuilder();
+        for (int p = 0; p < people; p++) {
+            char table = tables.charAt(p);
+            int sum = 10;
+            for (int q = 0; q < people && tables.indexOf(table) == p; q++) {
+                sum += tables.charAt(q) == table ? 1 << q : 0;
+            }
+            told.append(p == 0 ? "" : ";").append(sum).append('0').append(1 << p);
+        }
+        alikeOf(told.toString(), 1);
+    }
+
     private static void alike() {
         alikeOf("", 0);
         alikeOf("5010", 0);
@@ -177,6 +212,9 @@ public final class SeatingTest {
         alikeOf("2000;2001", 0);
         alikeOf("2000;2100", RichestPays.NONE);
         alikeOf("2000;2003", 0);
+        eachWayToPart("", 4);
+        eachWayToPart("", 3);
+        eachWayToPart("", 2);
         alikeOf("2010;3010;4010", 1);
         alikeOf("2010;3010;4010;5010", RichestPays.NONE);
         alikeOf("3505;2010", 1);

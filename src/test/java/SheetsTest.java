@@ -33,6 +33,7 @@ public final class SheetsTest {
         Due.is("lose(0), as it was", x.lose(0), 48);
         Due.is("lose(1), never made", x.lose(1), -11);
         x.sheet(2, 1, 3);
+        x.put(2, 1, 0, 76);
         x.put(2, 1, 2, 77);
         Due.is("sheet(2, 2, 3)", x.sheet(2, 2, 3), 3);
         items(x, 2, 2, 0, 0, 0);

@@ -109,6 +109,7 @@ public final class TextsTest {
         faultOf("5", "0", 0, 0);
         faultOf("5", "", -1, 0);
         faultOf("5005;2003", "", -1, 0);
+        faultOf("5005", "", -1, 0);
         faultOf("5005;2003", "0", 1, 0);
         faultOf("5005;2003", "05", -1, 1);
         faultOf("5005;2003", "06", 1, 0);
