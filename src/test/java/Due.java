@@ -4,15 +4,21 @@ import java.util.function.LongSupplier;
 final class Due {
     private static int wrong = 0;
     private static int asked = 0;
+    private static String sentence = "";
 
     private Due() {
+    }
+
+    /** What follows holds this sentence of the document. */
+    static void sentence(String told) {
+        sentence = "[" + told + "] ";
     }
 
     static void is(String call, long got, long want) {
         asked++;
         if (got != want) {
             wrong++;
-            System.out.println(call + " answered " + got + ", due is " + want);
+            System.out.println(sentence + call + " answered " + got + ", due is " + want);
         }
     }
 
@@ -25,6 +31,10 @@ final class Due {
         long before = x.digest();
         is(call, made.getAsLong(), want);
         is("digest() behind " + call, x.digest(), before);
+    }
+
+    static int asked() {
+        return asked;
     }
 
     static void end(String test) {

@@ -25,8 +25,12 @@ final class Make {
 
     /** A row of ints on a SHEET. */
     static void row(RichestPays x, int s, int... items) {
-        x.sheet(s, 2, items.length);
-        for (int i = 0; i < items.length; i++) {
+        row(x, s, items, items.length);
+    }
+
+    static void row(RichestPays x, int s, int[] items, int n) {
+        x.sheet(s, 2, n);
+        for (int i = 0; i < n; i++) {
             x.put(s, 2, i, items[i]);
         }
     }

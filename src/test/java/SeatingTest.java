@@ -181,30 +181,6 @@ public final class SeatingTest {
         Due.is("alike() of " + people, x.alike(), want);
     }
 
-    /**
-     * One at each TABLE has what all eat there and 10 more, the others have 10: as no other sums
-     * of APPETITES 1, 2, 4, 8 are like these, just this way makes all alike at once.
-     */
-    private static void eachWayToPart(String tables, int people) {
-        if (tables.length() < people) {
-            int next = tables.chars().map(c -> c - '0').max().orElse(-1) + 1;
-            for (int table = 0; table <= next; table++) {
-                eachWayToPart(tables + table, people);
-            }
-            return;
-        }
-        StringBuilder told = new StringBuilder();
-        for (int p = 0; p < people; p++) {
-            char table = tables.charAt(p);
-            int sum = 10;
-            for (int q = 0; q < people && tables.indexOf(table) == p; q++) {
-                sum += tables.charAt(q) == table ? 1 << q : 0;
-            }
-            told.append(p == 0 ? "" : ";").append(sum).append('0').append(1 << p);
-        }
-        alikeOf(told.toString(), 1);
-    }
-
     private static void alike() {
         alikeOf("", 0);
         alikeOf("5010", 0);
@@ -212,9 +188,6 @@ public final class SeatingTest {
         alikeOf("2000;2001", 0);
         alikeOf("2000;2100", RichestPays.NONE);
         alikeOf("2000;2003", 0);
-        eachWayToPart("", 4);
-        eachWayToPart("", 3);
-        eachWayToPart("", 2);
         alikeOf("2010;3010;4010", 1);
         alikeOf("2010;3010;4010;5010", RichestPays.NONE);
         alikeOf("3505;2010", 1);
