@@ -36,6 +36,9 @@ public final class FaceTest {
         Due.isTrue("public and final", Modifier.isPublic(kind) && Modifier.isFinal(kind));
         for (Class<?> inside : RichestPays.class.getDeclaredClasses()) {
             Due.isTrue(inside + " is static", Modifier.isStatic(inside.getModifiers()));
+            Due.isTrue(inside + " is private", Modifier.isPrivate(inside.getModifiers()));
+            Due.isTrue(inside + " has some twenty fields at most",
+                    inside.getDeclaredFields().length <= 25);
         }
         Due.end("FaceTest");
     }

@@ -1,6 +1,10 @@
 import java.io.IOException;
 import java.nio.file.Files;
 import java.nio.file.Path;
+import java.util.Map;
+import java.util.Set;
+import java.util.TreeMap;
+import java.util.TreeSet;
 import java.util.regex.Matcher;
 import java.util.regex.Pattern;
 
@@ -17,7 +21,11 @@ public final class LanguageTest {
         "\\bstatic (?!final\\b)(?!class\\b)[\\w\\[\\]]+ \\w+\\s*[=;]",
     };
     private static final Pattern METHOD =
-            Pattern.compile("^( +)(?:\\w+ )*[\\w\\[\\]]+ ?\\w+\\(([^)]*)\\) \\{$");
+            Pattern.compile("^( +)(?:[\\w\\[\\]]+ )*(\\w+)\\(([^)]*)\\) \\{$");
+    private static final Pattern CALL = Pattern.compile("(\\w+)\\(");
+    private static final int DEEPEST = 8;
+    /** By the name of a method (those of one name as one) what it calls. */
+    private static final Map<String, Set<String>> CALLED = new TreeMap<>();
 
     public static void main(String[] args) throws IOException {
         String source = Files.readString(Path.of(SOURCE));
@@ -30,6 +38,10 @@ public final class LanguageTest {
         Matcher classes = Pattern.compile("\\bclass\\b").matcher(code);
         Due.isTrue("some twelve classes at most", classes.results().count() <= 13);
         methods(code.split("\n"));
+        for (String name : CALLED.keySet()) {
+            Due.isTrue(name + " is eight calls deep at most, and no recursion",
+                    depth(name, 1) <= DEEPEST);
+        }
         Due.end("LanguageTest");
     }
 
@@ -47,8 +59,24 @@ public final class LanguageTest {
             }
             Due.isTrue("short: " + lines[i].trim(), end - i < 60);
             Due.isTrue("seven parameters at most: " + lines[i].trim(),
-                    m.group(2).split(",").length <= 7);
+                    m.group(3).split(",").length <= 7);
+            Set<String> called = CALLED.computeIfAbsent(m.group(2), name -> new TreeSet<>());
+            for (int line = i + 1; line < end; line++) {
+                CALL.matcher(lines[line]).results().forEach(c -> called.add(c.group(1)));
+            }
         }
         Due.isTrue("methods are found: " + methods, methods > 31);
+    }
+
+    /** How many methods stand open at once; one more than is allowed, if it calls itself. */
+    private static int depth(String name, int above) {
+        int deepest = above;
+        if (above <= DEEPEST) {
+            for (String called : CALLED.get(name)) {
+                deepest = !CALLED.containsKey(called) ? deepest
+                        : Math.max(deepest, depth(called, above + 1));
+            }
+        }
+        return deepest;
     }
 }
